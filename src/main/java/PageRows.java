@@ -411,7 +411,7 @@ public final class PageRows {
         private boolean changed;
 
         private boolean standsFor(int ofContext, int place) {
-            // The shift is unsigned, so that the bits of no place outside are an entry's.
+            // All bits above are asked, so that those of no place outside are an entry's.
             return context == ofContext && bits == place >>> bitsBelow(largeness);
         }
 
