@@ -6,14 +6,31 @@ final class Due {
 
     private int right;
     private int wrong;
+    private String sentence = "";
+    private int askedOfSentence = 1;
+    private int sentences;
+
+    /** From here on answers are told of this sentence; one that asks for nothing is wrong. */
+    void sentence(String told) {
+        endSentence();
+        sentence = told;
+        askedOfSentence = 0;
+        sentences++;
+    }
+
+    private void endSentence() {
+        if (askedOfSentence == 0) {
+            askedOfSentence = 1;
+            note(false, "nothing was asked");
+        }
+    }
 
     void same(String call, long got, long want) {
-        if (got == want) {
-            right++;
-        } else {
-            wrong++;
-            System.out.println(call + " answered " + got + ", due is " + want);
-        }
+        note(got == want, call + " answered " + got + ", due is " + want);
+    }
+
+    void same(String call, String got, String want) {
+        note(got.equals(want), call + " showed\n  " + got + ", due is\n  " + want);
     }
 
     void outOfBounds(String call, Call made) {
@@ -32,16 +49,23 @@ final class Due {
         } catch (RuntimeException e) {
             got = e.getClass();
         }
-        if (got == want) {
+        note(got == want, call + " threw " + got + ", due is " + want);
+    }
+
+    private void note(boolean asDue, String what) {
+        askedOfSentence++;
+        if (asDue) {
             right++;
         } else {
             wrong++;
-            System.out.println(call + " threw " + got + ", due is " + want);
+            System.out.println(sentence.isEmpty() ? what : "[" + sentence + "] " + what);
         }
     }
 
     void end() {
-        System.out.println(right + " answers as due, " + wrong + " not");
+        endSentence();
+        String of = sentences == 0 ? "" : " of " + sentences + " sentences";
+        System.out.println(right + " answers" + of + " as due, " + wrong + " not");
         if (wrong != 0 || right == 0) {
             System.exit(1);
         }

@@ -1,8 +1,7 @@
 /** Promises 8 to 11: walks, what they come to, where they fault, and the plain walk. */
 public final class WalkTest {
     private static final Due due = new Due();
-    private static final long ALL_RIGHTS =
-            Words.PRESENT | Words.READ | Words.WRITE | Words.RUN | Words.USER;
+    private static final long ALL_RIGHTS = Words.ALL_RIGHTS;
 
     public static void main(String[] args) {
         everyLevelCountIsWalked();
@@ -33,18 +32,6 @@ public final class WalkTest {
         due.end();
     }
 
-    /** Lays tables in frames 16, 17, .. so that place's bits lead to the leaf word. */
-    private static PageRows way(int levels, int place, long leaf) {
-        PageRows x = new PageRows(levels, 4);
-        x.root(0, 16);
-        for (int level = 0; level < levels; level++) {
-            int index = (place >> (8 + 4 * (levels - 1 - level))) & 15;
-            long word = level == levels - 1 ? leaf : Words.next(17 + level);
-            x.table((16 + level) * 16 + index, word);
-        }
-        return x;
-    }
-
     /** Walks once, and tells fault, level and to as due; plain() must say the same beforehand. */
     private static void walks(PageRows x, int place, int kind, int fault, int levelOrTo) {
         String call = "(" + place + ", " + kind + ")";
@@ -58,13 +45,13 @@ public final class WalkTest {
         int[] places = {0x7AB, 0x72AB, 0x731AB, 0xF731AB};
         for (int levels = 1; levels <= 4; levels++) {
             int place = places[levels - 1];
-            PageRows x = way(levels, place, Words.of(0x345, Words.PRESENT | Words.READ));
+            PageRows x = Words.way(levels, place, Words.of(0x345, Words.PRESENT | Words.READ));
             walks(x, place, 0, 0, 0x345AB);
             due.same("words read on " + levels, x.count(4), levels);
             due.same("walks on " + levels, x.count(6), 1);
             walks(x, place ^ 0x100, 0, 2, levels - 1);
         }
-        PageRows highest = way(4, 0xFFFFFF, Words.of(0xFFFFF, Words.PRESENT | Words.RUN));
+        PageRows highest = Words.way(4, 0xFFFFFF, Words.of(0xFFFFF, Words.PRESENT | Words.RUN));
         walks(highest, 0xFFFFFF, 2, 0, 0xFFFFFFF);
     }
 
@@ -83,7 +70,7 @@ public final class WalkTest {
             due.same("nothing was read", x.count(4), 0);
         }
         // The low bits of these places are those of a kept entry.
-        PageRows kept = way(1, 0, Words.of(9, ALL_RIGHTS));
+        PageRows kept = Words.way(1, 0, Words.of(9, ALL_RIGHTS));
         walks(kept, 0, 0, 0, 9 * 256);
         walks(kept, 0x1000, 0, 1, 0);
         walks(kept, Integer.MIN_VALUE, 0, 1, 0);
@@ -91,7 +78,7 @@ public final class WalkTest {
     }
 
     private static void wordNotPresentIsFaultTwo() {
-        PageRows x = way(3, 0x12345, Words.of(9, ALL_RIGHTS & ~Words.PRESENT));
+        PageRows x = Words.way(3, 0x12345, Words.of(9, ALL_RIGHTS & ~Words.PRESENT));
         walks(x, 0x12345, 0, 2, 2);
         walks(x, 0x11345, 0, 2, 1);
         walks(x, 0x22345, 0, 2, 0);
@@ -107,7 +94,7 @@ public final class WalkTest {
                 boolean allowed = (word & rights[kind % 3]) != 0
                         && (kind < 3 || (word & Words.USER) != 0);
                 // The upper words have no right at all.
-                PageRows x = way(2, 0x3456, word);
+                PageRows x = Words.way(2, 0x3456, word);
                 walks(x, 0x3456, kind, allowed ? 0 : 3, allowed ? 0x956 : 1);
             }
         }
@@ -145,10 +132,10 @@ public final class WalkTest {
     }
 
     private static void largeMeansNothingAtTheLastLevel() {
-        PageRows x = way(2, 0x3456, Words.of(0x9, Words.PRESENT | Words.READ | Words.LARGE));
+        PageRows x = Words.way(2, 0x3456, Words.of(0x9, Words.PRESENT | Words.READ | Words.LARGE));
         walks(x, 0x3456, 0, 0, 0x956);
         due.same("largeness", x.kept(0, 1), 0);
-        PageRows one = way(1, 0x456, Words.of(0x7, Words.PRESENT | Words.READ | Words.LARGE));
+        PageRows one = Words.way(1, 0x456, Words.of(0x7, Words.PRESENT | Words.READ | Words.LARGE));
         walks(one, 0x456, 0, 0, 0x756);
     }
 
@@ -241,7 +228,7 @@ public final class WalkTest {
     private static void marksAreMade() {
         long leaf = Words.of(9, ALL_RIGHTS);
         for (int kind = 0; kind < 6; kind++) {
-            PageRows x = way(2, 0, leaf);
+            PageRows x = Words.way(2, 0, leaf);
             x.walk(0, kind);
             boolean write = kind == 1 || kind == 4;
             due.same("upper word is seen", x.word(256), Words.next(17) | Words.SEEN);
@@ -249,14 +236,14 @@ public final class WalkTest {
                     leaf | Words.SEEN | (write ? Words.CHANGED : 0));
             due.same("entry changed by kind " + kind, x.kept(0, 5), write ? 1 : 0);
         }
-        PageRows changed = way(1, 0, leaf | Words.CHANGED);
+        PageRows changed = Words.way(1, 0, leaf | Words.CHANGED);
         changed.walk(0, 0);
         due.same("entry of a leaf changed before", changed.kept(0, 5), 1);
         due.same("leaf changed before", changed.word(256), leaf | Words.CHANGED | Words.SEEN);
     }
 
     private static void marksAreNotMadeWithFault() {
-        PageRows x = way(2, 0, Words.of(9, Words.PRESENT | Words.READ));
+        PageRows x = Words.way(2, 0, Words.of(9, Words.PRESENT | Words.READ));
         due.same("walk without right", x.walk(0, 1), 3);
         due.same("upper word", x.word(256), Words.next(17));
         due.same("leaf", x.word(272), Words.of(9, Words.PRESENT | Words.READ));
@@ -312,7 +299,7 @@ public final class WalkTest {
     }
 
     private static void entryAsksItsRight() {
-        PageRows x = way(2, 0, Words.of(9, Words.PRESENT | Words.READ));
+        PageRows x = Words.way(2, 0, Words.of(9, Words.PRESENT | Words.READ));
         x.walk(0, 0);
         // The table would allow it now, but the entry does not know.
         x.table(272, Words.of(9, ALL_RIGHTS));
@@ -328,7 +315,7 @@ public final class WalkTest {
     }
 
     private static void writeByEntryNotChangedWalks() {
-        PageRows x = way(2, 0, Words.of(9, ALL_RIGHTS));
+        PageRows x = Words.way(2, 0, Words.of(9, ALL_RIGHTS));
         x.walk(0, 0);
         due.same("write walks", x.walk(1, 1), 0);
         due.same("walks", x.count(6), 2);
@@ -339,7 +326,7 @@ public final class WalkTest {
         due.same("by entries", x.count(5), 1);
         due.same("reads", x.count(4), 4);
         // With a fault in that walk the entry stays where and as it was.
-        PageRows y = way(1, 0, Words.of(9, ALL_RIGHTS));
+        PageRows y = Words.way(1, 0, Words.of(9, ALL_RIGHTS));
         y.table(257, Words.of(10, ALL_RIGHTS));
         y.walk(0, 0);
         y.walk(256, 0);
@@ -353,7 +340,7 @@ public final class WalkTest {
     }
 
     private static void entryIsMappedAtEachUse() {
-        PageRows x = way(1, 0, Words.of(9, ALL_RIGHTS));
+        PageRows x = Words.way(1, 0, Words.of(9, ALL_RIGHTS));
         x.walk(0, 0);
         x.hosts(true);
         due.same("no host", x.walk(3, 0), 6);
@@ -371,13 +358,13 @@ public final class WalkTest {
         due.same("by entries", x.count(5), 4);
         due.same("by walks", x.count(6), 1);
         due.same("faults", x.count(7), 1);
-        PageRows high = way(1, 0, Words.of(256, ALL_RIGHTS));
+        PageRows high = Words.way(1, 0, Words.of(256, ALL_RIGHTS));
         high.walk(0, 0);
         high.hosts(true);
         due.same("above 255", high.walk(0, 0), 6);
         due.same("by entry", high.count(5), 1);
         // An entry without right and host tells the right first.
-        PageRows both = way(1, 0, Words.of(9, Words.PRESENT | Words.READ));
+        PageRows both = Words.way(1, 0, Words.of(9, Words.PRESENT | Words.READ));
         both.walk(0, 0);
         both.hosts(true);
         due.same("right ahead of host", both.walk(0, 2), 3);
@@ -408,7 +395,7 @@ public final class WalkTest {
     }
 
     private static void wrongKindIsRefused() {
-        PageRows x = way(1, 0, Words.of(9, ALL_RIGHTS));
+        PageRows x = Words.way(1, 0, Words.of(9, ALL_RIGHTS));
         int[] kinds = {-1, 6, Integer.MIN_VALUE, Integer.MAX_VALUE};
         for (int kind : kinds) {
             due.illegal("walk(0, " + kind + ")", () -> x.walk(0, kind));
@@ -421,7 +408,7 @@ public final class WalkTest {
     }
 
     private static void toAndLevelTellTheLatestWalk() {
-        PageRows x = way(2, 0, Words.of(9, ALL_RIGHTS));
+        PageRows x = Words.way(2, 0, Words.of(9, ALL_RIGHTS));
         x.walk(0x100, 0);
         due.same("level of a fault", x.level(), 1);
         due.same("to of a fault", x.to(), PageRows.NONE);
@@ -446,7 +433,7 @@ public final class WalkTest {
     }
 
     private static void plainLeavesAllAsItWas() {
-        PageRows x = way(2, 0, Words.of(9, ALL_RIGHTS));
+        PageRows x = Words.way(2, 0, Words.of(9, ALL_RIGHTS));
         due.same("plain write", x.plain(3, 1), 9 * 256 + 3);
         due.same("plain fault", x.plain(0x100, 1), -2);
         due.same("upper word", x.word(256), Words.next(17));
@@ -463,7 +450,7 @@ public final class WalkTest {
     }
 
     private static void plainKnowsNoEntries() {
-        PageRows x = way(1, 0, Words.of(9, ALL_RIGHTS));
+        PageRows x = Words.way(1, 0, Words.of(9, ALL_RIGHTS));
         x.walk(0, 0);
         x.table(256, Words.of(11, Words.PRESENT | Words.READ));
         due.same("plain", x.plain(1, 0), 11 * 256 + 1);
