@@ -10,6 +10,18 @@ final class Due {
     private int askedOfSentence = 1;
     private int sentences;
 
+    /** Runs tests one by one; one that ends early is wrong, and the next ones are still run. */
+    void each(Call... tests) {
+        for (Call test : tests) {
+            try {
+                test.run();
+            } catch (RuntimeException e) {
+                note(false, "ended early: " + e);
+            }
+        }
+        end();
+    }
+
     /** From here on answers are told of this sentence; one that asks for nothing is wrong. */
     void sentence(String told) {
         endSentence();

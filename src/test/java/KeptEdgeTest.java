@@ -8,59 +8,59 @@ public final class KeptEdgeTest {
     private static final Refusals refused = new Refusals(due);
 
     public static void main(String[] args) {
-        upToN();
-        partsAtTheirEnds();
-        leafsFrameIsNotMapped();
-        changedBehindTheWalk();
-        orderOfLastUse();
-        entryOfTheContext();
-        entryWhoseBitsAreThePlaces();
-        oneUsedLastOfSeveral();
-        rightIsAsked();
-        entryWithoutRightIsUsed();
-        writeByAnEntryNotChanged();
-        writeThatWalksToAFault();
-        writeWithoutAnEntry();
-        frameIsMappedAtEachUse();
-        walkWithFaultGivesNone();
-        oneOfTheSameGoesBefore();
-        oneOfTheSameMakesRoom();
-        oneUsedLongestAgoGoes();
-        flushOfNone();
-        flushOfAll();
-        flushOfTheContext();
-        flushOfThePlace();
-        flushOfALargePlace();
-        flushOfAPlaceOutside();
-        flushAnswersHowMany();
-        flushOfAnotherWhat();
-        keptFirstAndLast();
-        keptOfNone();
-        keptOfAnotherWhat();
-        keptOfBoth();
-        staleOfNone();
-        staleOfAll();
-        staleOfTheContext();
-        staleForTheFirstPlace();
-        staleElsewhere();
-        staleToAFault();
-        staleByItsRight();
-        staleByHostsAsTheyAre();
-        staleOfBothFaults();
-        staleAsksNoMark();
-        staleChangesNothing();
-        staleOfNoKind();
-        countsAtFirst();
-        countOfLevelsAndRoom();
-        countOfEntries();
-        countOfTheContext();
-        countOfReads();
-        countByEntries();
-        countByWalks();
-        countOfFaults();
-        countOfWantOfRoom();
-        countOfAnotherWhat();
-        due.end();
+        due.each(
+            KeptEdgeTest::upToN,
+            KeptEdgeTest::partsAtTheirEnds,
+            KeptEdgeTest::leafsFrameIsNotMapped,
+            KeptEdgeTest::changedBehindTheWalk,
+            KeptEdgeTest::orderOfLastUse,
+            KeptEdgeTest::entryOfTheContext,
+            KeptEdgeTest::entryWhoseBitsAreThePlaces,
+            KeptEdgeTest::oneUsedLastOfSeveral,
+            KeptEdgeTest::rightIsAsked,
+            KeptEdgeTest::entryWithoutRightIsUsed,
+            KeptEdgeTest::writeByAnEntryNotChanged,
+            KeptEdgeTest::writeThatWalksToAFault,
+            KeptEdgeTest::writeWithoutAnEntry,
+            KeptEdgeTest::frameIsMappedAtEachUse,
+            KeptEdgeTest::walkWithFaultGivesNone,
+            KeptEdgeTest::oneOfTheSameGoesBefore,
+            KeptEdgeTest::oneOfTheSameMakesRoom,
+            KeptEdgeTest::oneUsedLongestAgoGoes,
+            KeptEdgeTest::flushOfNone,
+            KeptEdgeTest::flushOfAll,
+            KeptEdgeTest::flushOfTheContext,
+            KeptEdgeTest::flushOfThePlace,
+            KeptEdgeTest::flushOfALargePlace,
+            KeptEdgeTest::flushOfAPlaceOutside,
+            KeptEdgeTest::flushAnswersHowMany,
+            KeptEdgeTest::flushOfAnotherWhat,
+            KeptEdgeTest::keptFirstAndLast,
+            KeptEdgeTest::keptOfNone,
+            KeptEdgeTest::keptOfAnotherWhat,
+            KeptEdgeTest::keptOfBoth,
+            KeptEdgeTest::staleOfNone,
+            KeptEdgeTest::staleOfAll,
+            KeptEdgeTest::staleOfTheContext,
+            KeptEdgeTest::staleForTheFirstPlace,
+            KeptEdgeTest::staleElsewhere,
+            KeptEdgeTest::staleToAFault,
+            KeptEdgeTest::staleByItsRight,
+            KeptEdgeTest::staleByHostsAsTheyAre,
+            KeptEdgeTest::staleOfBothFaults,
+            KeptEdgeTest::staleAsksNoMark,
+            KeptEdgeTest::staleChangesNothing,
+            KeptEdgeTest::staleOfNoKind,
+            KeptEdgeTest::countsAtFirst,
+            KeptEdgeTest::countOfLevelsAndRoom,
+            KeptEdgeTest::countOfEntries,
+            KeptEdgeTest::countOfTheContext,
+            KeptEdgeTest::countOfReads,
+            KeptEdgeTest::countByEntries,
+            KeptEdgeTest::countByWalks,
+            KeptEdgeTest::countOfFaults,
+            KeptEdgeTest::countOfWantOfRoom,
+            KeptEdgeTest::countOfAnotherWhat);
     }
 
     /** One level; page i of context c is frame 100 + 16 c + i, for all of them. */
@@ -630,6 +630,7 @@ public final class KeptEdgeTest {
         int[] whats = {MIN, -1, 6, 7, MAX};
         for (int what : whats) {
             refused.outOfBounds("kept(0, " + what + ")", x -> x.kept(0, what));
+            refused.outOfBounds("kept(1, " + what + ")", x -> x.kept(1, what));
         }
         PageRows x = pages(1);
         read(x, 0);

@@ -5,30 +5,30 @@ public final class KeptTest {
     private static final long BOTH = READ | Words.WRITE;
 
     public static void main(String[] args) {
-        flushOfAll();
-        flushOfContext();
-        flushOfPlace();
-        flushOfSeveralForOnePlace();
-        flushKeepsTheOrder();
-        flushOfAnotherWhat();
-        keptTellsItsParts();
-        keptIsInOrderOfUse();
-        keptOutOfBounds();
-        newEntryTakesItsForerunnersPlace();
-        oneUsedLongestAgoGoes();
-        roomForThirtyTwo();
-        staleByFrame();
-        staleByFault();
-        staleByRight();
-        staleOfBothFaults();
-        staleByHosts();
-        staleOfLargePages();
-        staleOfTheContextAlone();
-        staleOfAnotherKind();
-        staleLeavesAllAsItWas();
-        countsOfEverything();
-        countOfAnotherWhat();
-        due.end();
+        due.each(
+            KeptTest::flushOfAll,
+            KeptTest::flushOfContext,
+            KeptTest::flushOfPlace,
+            KeptTest::flushOfSeveralForOnePlace,
+            KeptTest::flushKeepsTheOrder,
+            KeptTest::flushOfAnotherWhat,
+            KeptTest::keptTellsItsParts,
+            KeptTest::keptIsInOrderOfUse,
+            KeptTest::keptOutOfBounds,
+            KeptTest::newEntryTakesItsForerunnersPlace,
+            KeptTest::oneUsedLongestAgoGoes,
+            KeptTest::roomForThirtyTwo,
+            KeptTest::staleByFrame,
+            KeptTest::staleByFault,
+            KeptTest::staleByRight,
+            KeptTest::staleOfBothFaults,
+            KeptTest::staleByHosts,
+            KeptTest::staleOfLargePages,
+            KeptTest::staleOfTheContextAlone,
+            KeptTest::staleOfAnotherKind,
+            KeptTest::staleLeavesAllAsItWas,
+            KeptTest::countsOfEverything,
+            KeptTest::countOfAnotherWhat);
     }
 
     /** One level: context c's page i is frame 100 + 20 c + i, for i below 8. */

@@ -9,35 +9,35 @@ public final class MemoryEdgeTest {
     private static final Refusals refused = new Refusals(due);
 
     public static void main(String[] args) {
-        callsUpTo512();
-        memoryIsZeroAtFirst();
-        memoryHasEveryWord();
-        wordsAreLongs();
-        framesHaveTheirWords();
-        framesAreNotWider();
-        levelsAreTheRest();
-        entriesAreTheRest();
-        contextAtFirst();
-        rootsAtFirst();
-        hostsAtFirst();
-        tableAnswersTheOneBefore();
-        tableOfNoWord();
-        tableIsNotKnownToEntries();
-        wordAtTheEnds();
-        wordOfNone();
-        contextAnswersTheOneBefore();
-        contextOfNone();
-        rootAnswersTheOneBefore();
-        rootOfNoContext();
-        rootOfNoFrame();
-        rootTellsTheContextFirst();
-        hostAnswersTheOneBefore();
-        hostIsNoneAnyMore();
-        hostOfNoFrame();
-        hostOfNoNumber();
-        hostTellsTheFrameFirst();
-        hostsAnswersWhatItWas();
-        due.end();
+        due.each(
+            MemoryEdgeTest::callsUpTo512,
+            MemoryEdgeTest::memoryIsZeroAtFirst,
+            MemoryEdgeTest::memoryHasEveryWord,
+            MemoryEdgeTest::wordsAreLongs,
+            MemoryEdgeTest::framesHaveTheirWords,
+            MemoryEdgeTest::framesAreNotWider,
+            MemoryEdgeTest::levelsAreTheRest,
+            MemoryEdgeTest::entriesAreTheRest,
+            MemoryEdgeTest::contextAtFirst,
+            MemoryEdgeTest::rootsAtFirst,
+            MemoryEdgeTest::hostsAtFirst,
+            MemoryEdgeTest::tableAnswersTheOneBefore,
+            MemoryEdgeTest::tableOfNoWord,
+            MemoryEdgeTest::tableIsNotKnownToEntries,
+            MemoryEdgeTest::wordAtTheEnds,
+            MemoryEdgeTest::wordOfNone,
+            MemoryEdgeTest::contextAnswersTheOneBefore,
+            MemoryEdgeTest::contextOfNone,
+            MemoryEdgeTest::rootAnswersTheOneBefore,
+            MemoryEdgeTest::rootOfNoContext,
+            MemoryEdgeTest::rootOfNoFrame,
+            MemoryEdgeTest::rootTellsTheContextFirst,
+            MemoryEdgeTest::hostAnswersTheOneBefore,
+            MemoryEdgeTest::hostIsNoneAnyMore,
+            MemoryEdgeTest::hostOfNoFrame,
+            MemoryEdgeTest::hostOfNoNumber,
+            MemoryEdgeTest::hostTellsTheFrameFirst,
+            MemoryEdgeTest::hostsAnswersWhatItWas);
     }
 
     private static void callsUpTo512() {
@@ -81,17 +81,25 @@ public final class MemoryEdgeTest {
 
     private static void memoryHasEveryWord() {
         due.sentence("MEMORY has 4096 WORDS, each of its own");
-        for (int offset = 0; offset < 16; offset++) {
-            PageRows x = new PageRows(1, 1);
-            for (int at = offset; at < 4096; at += 16) {
-                x.table(at, 1000L * at + 7);
-            }
-            int wrong = 0;
-            for (int at = offset; at < 4096; at += 16) {
-                wrong += x.word(at) == 1000L * at + 7 ? 0 : 1;
-            }
-            due.same("words " + offset + ", " + (offset + 16) + ", .. that differ", wrong, 0);
+        for (int part = 0; part < 16; part++) {
+            due.same("words " + part + ", " + (part + 16) + ", .. that differ",
+                    wordsThatDiffer(part, 16), 0);
+            due.same("words from " + part * 256 + " on that differ",
+                    wordsThatDiffer(part * 256, 1), 0);
         }
+    }
+
+    /** Lays 256 words and reads them. */
+    private static int wordsThatDiffer(int first, int step) {
+        PageRows x = new PageRows(1, 1);
+        for (int i = 0; i < 256; i++) {
+            x.table(first + i * step, 1000L * i + 7);
+        }
+        int differ = 0;
+        for (int i = 0; i < 256; i++) {
+            differ += x.word(first + i * step) == 1000L * i + 7 ? 0 : 1;
+        }
+        return differ;
     }
 
     private static void wordsAreLongs() {

@@ -3,18 +3,18 @@ public final class MemoryTest {
     private static final Due due = new Due();
 
     public static void main(String[] args) {
-        newObjectHasItsSizes();
-        newObjectIsEmpty();
-        tableChangesOneWord();
-        tableIsNotKnownToEntries();
-        wordReadsMemory();
-        contextIsChanged();
-        contextChoosesRootAndEntries();
-        rootIsChanged();
-        hostIsChanged();
-        hostsAreSwitched();
-        wrongCallsChangeNothing();
-        due.end();
+        due.each(
+            MemoryTest::newObjectHasItsSizes,
+            MemoryTest::newObjectIsEmpty,
+            MemoryTest::tableChangesOneWord,
+            MemoryTest::tableIsNotKnownToEntries,
+            MemoryTest::wordReadsMemory,
+            MemoryTest::contextIsChanged,
+            MemoryTest::contextChoosesRootAndEntries,
+            MemoryTest::rootIsChanged,
+            MemoryTest::hostIsChanged,
+            MemoryTest::hostsAreSwitched,
+            MemoryTest::wrongCallsChangeNothing);
     }
 
     /** Promise 1. */

@@ -4,32 +4,32 @@ public final class WalkTest {
     private static final long ALL_RIGHTS = Words.ALL_RIGHTS;
 
     public static void main(String[] args) {
-        everyLevelCountIsWalked();
-        placeOutsideIsFaultOne();
-        wordNotPresentIsFaultTwo();
-        rightsAreAskedOfLeavesAlone();
-        largePagesAreReached();
-        largePageNotDividedIsFaultFour();
-        largeMeansNothingAtTheLastLevel();
-        tableAboveFramesIsFaultFive();
-        tableWithoutHostIsFaultSix();
-        pageWithoutHostIsFaultSixBehindTheLeaf();
-        faultsComeInTheirOrder();
-        otherBitsDoNotMatter();
-        marksAreMade();
-        marksAreNotMadeWithFault();
-        sameWordReadTwice();
-        marksLieInHosts();
-        entryAnswersForItsPlaces();
-        entryAsksItsRight();
-        writeByEntryNotChangedWalks();
-        entryIsMappedAtEachUse();
-        latestUsedEntryAnswers();
-        wrongKindIsRefused();
-        toAndLevelTellTheLatestWalk();
-        plainLeavesAllAsItWas();
-        plainKnowsNoEntries();
-        due.end();
+        due.each(
+            WalkTest::everyLevelCountIsWalked,
+            WalkTest::placeOutsideIsFaultOne,
+            WalkTest::wordNotPresentIsFaultTwo,
+            WalkTest::rightsAreAskedOfLeavesAlone,
+            WalkTest::largePagesAreReached,
+            WalkTest::largePageNotDividedIsFaultFour,
+            WalkTest::largeMeansNothingAtTheLastLevel,
+            WalkTest::tableAboveFramesIsFaultFive,
+            WalkTest::tableWithoutHostIsFaultSix,
+            WalkTest::pageWithoutHostIsFaultSixBehindTheLeaf,
+            WalkTest::faultsComeInTheirOrder,
+            WalkTest::otherBitsDoNotMatter,
+            WalkTest::marksAreMade,
+            WalkTest::marksAreNotMadeWithFault,
+            WalkTest::sameWordReadTwice,
+            WalkTest::marksLieInHosts,
+            WalkTest::entryAnswersForItsPlaces,
+            WalkTest::entryAsksItsRight,
+            WalkTest::writeByEntryNotChangedWalks,
+            WalkTest::entryIsMappedAtEachUse,
+            WalkTest::latestUsedEntryAnswers,
+            WalkTest::wrongKindIsRefused,
+            WalkTest::toAndLevelTellTheLatestWalk,
+            WalkTest::plainLeavesAllAsItWas,
+            WalkTest::plainKnowsNoEntries);
     }
 
     /** Walks once, and tells fault, level and to as due; plain() must say the same beforehand. */
