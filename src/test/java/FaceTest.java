@@ -34,6 +34,7 @@ public final class FaceTest {
         methodsAreThoseOfTheDocument();
         constructorIsThatOfTheDocument();
         constantsAreThoseOfTheDocument();
+        staticFieldsAreConstants();
         innerClassesAreHidden();
         sourceKeepsToTheLanguage();
         due.end();
@@ -48,6 +49,8 @@ public final class FaceTest {
         isTrue("public", Modifier.isPublic(modifiers));
         isTrue("final", Modifier.isFinal(modifiers));
         isTrue("no package", PageRows.class.getPackageName().isEmpty());
+        isTrue("no class above it", PageRows.class.getSuperclass() == Object.class);
+        due.same("interfaces", PageRows.class.getInterfaces().length, 0);
     }
 
     private static void methodsAreThoseOfTheDocument() {
@@ -65,6 +68,13 @@ public final class FaceTest {
             int modifiers = method.getModifiers();
             if (!Modifier.isPublic(modifiers)) {
                 isTrue(method.getName() + " is private", Modifier.isPrivate(modifiers));
+                isTrue(method.getName() + " is no public name", !names.contains(method.getName()));
+            } else {
+                isTrue(method.getName() + " is of an object", !Modifier.isStatic(modifiers));
+            }
+        }
+        for (Class<?> inner : PageRows.class.getDeclaredClasses()) {
+            for (Method method : inner.getDeclaredMethods()) {
                 isTrue(method.getName() + " is no public name", !names.contains(method.getName()));
             }
         }
@@ -88,6 +98,7 @@ public final class FaceTest {
         isTrue("constructor is public", Modifier.isPublic(constructors[0].getModifiers()));
         isTrue("constructor takes two ints", Arrays.equals(constructors[0].getParameterTypes(),
                 new Class<?>[] {int.class, int.class}));
+        due.same("constructor throws", constructors[0].getExceptionTypes().length, 0);
     }
 
     private static void constantsAreThoseOfTheDocument() {
@@ -97,8 +108,29 @@ public final class FaceTest {
             boolean constant = field.getName().equals("NONE");
             isTrue(field.getName() + " is seen as it should be",
                     constant ? Modifier.isPublic(modifiers) : Modifier.isPrivate(modifiers));
-            isTrue(field.getName() + " is final if static",
-                    !Modifier.isStatic(modifiers) || Modifier.isFinal(modifiers));
+            if (constant) {
+                isTrue("NONE is static", Modifier.isStatic(modifiers));
+                isTrue("NONE is an int", field.getType() == int.class);
+            }
+        }
+    }
+
+    /** Static fields that are no constants would be shared by objects. */
+    private static void staticFieldsAreConstants() {
+        finalIfStatic(PageRows.class);
+        for (Class<?> inner : PageRows.class.getDeclaredClasses()) {
+            finalIfStatic(inner);
+        }
+    }
+
+    private static void finalIfStatic(Class<?> type) {
+        for (Field field : type.getDeclaredFields()) {
+            int modifiers = field.getModifiers();
+            if (Modifier.isStatic(modifiers)) {
+                String name = type.getSimpleName() + "." + field.getName();
+                isTrue(name + " is final", Modifier.isFinal(modifiers));
+                isTrue(name + " is no array", !field.getType().isArray());
+            }
         }
     }
 

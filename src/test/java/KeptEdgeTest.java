@@ -13,6 +13,7 @@ public final class KeptEdgeTest {
             KeptEdgeTest::partsAtTheirEnds,
             KeptEdgeTest::leafsFrameIsNotMapped,
             KeptEdgeTest::changedBehindTheWalk,
+            KeptEdgeTest::changedLaterIsNotKnown,
             KeptEdgeTest::orderOfLastUse,
             KeptEdgeTest::entryOfTheContext,
             KeptEdgeTest::entryWhoseBitsAreThePlaces,
@@ -20,6 +21,7 @@ public final class KeptEdgeTest {
             KeptEdgeTest::rightIsAsked,
             KeptEdgeTest::entryWithoutRightIsUsed,
             KeptEdgeTest::writeByAnEntryNotChanged,
+            KeptEdgeTest::writeByTheOneUsedLast,
             KeptEdgeTest::writeThatWalksToAFault,
             KeptEdgeTest::writeWithoutAnEntry,
             KeptEdgeTest::frameIsMappedAtEachUse,
@@ -174,6 +176,32 @@ public final class KeptEdgeTest {
         due.same("an upper word's mark is not the leaf's", upper.kept(0, 5), 0);
     }
 
+    private static void changedLaterIsNotKnown() {
+        due.sentence("whether it was CHANGED behind the walk, and not what came later");
+        PageRows laid = Words.way(1, 0, Words.of(9, ALL));
+        laid.walk(0, 0);
+        laid.table(256, Words.of(9, ALL | Words.CHANGED));
+        due.same("changed by table()", laid.kept(0, 5), 0);
+        due.same("write", laid.walk(0, 1), 0);
+        due.same("it walks", laid.count(6), 2);
+        // Two contexts with one table: the write of the one is not known to the other's entry.
+        PageRows shared = Words.way(1, 0, Words.of(9, ALL));
+        shared.root(1, 16);
+        shared.walk(0, 0);
+        shared.context(1);
+        due.same("write in context 1", shared.walk(0, 1), 0);
+        due.same("the entries", Shown.entries(shared), ", entry 1 0 0 9 15 1, entry 0 0 0 9 15 0");
+        shared.context(0);
+        due.same("write in context 0", shared.walk(0, 4), 0);
+        due.same("it walks", shared.count(6), 3);
+        due.same("the entries", Shown.entries(shared), ", entry 0 0 0 9 15 1, entry 1 0 0 9 15 1");
+        // Nor does an entry lose what it had.
+        shared.table(256, Words.of(9, ALL));
+        due.same("write once more", shared.walk(0, 1), 0);
+        due.same("by the entry", shared.count(5), 1);
+        due.same("the word bears no mark", shared.word(256), Words.of(9, ALL));
+    }
+
     private static void orderOfLastUse() {
         due.sentence("They are in the order of their last use");
         PageRows x = pages(4);
@@ -317,6 +345,29 @@ public final class KeptEdgeTest {
             y.walk(0, kind);
         }
         due.same("by entries", y.count(5), 4);
+    }
+
+    private static void writeByTheOneUsedLast() {
+        due.sentence("TRANSLATING: (the one used last, of several): a write by it walks");
+        // The small one is CHANGED, the large one that is used behind it is not.
+        PageRows x = several(ALL, ALL);
+        x.walk(0x245, 0);
+        due.same("by walks so far", x.count(6), 2);
+        due.same("write", x.walk(0x345, 1), 0);
+        due.same("it walks", x.count(6), 3);
+        due.same("to, by the tables", x.to(), 0x5045);
+        // Now the small one was used last.
+        due.same("write again", x.walk(0x346, 1), 0);
+        due.same("no walk", x.count(6), 3);
+        // The right of the one used last is asked, though the other one has it.
+        PageRows y = new PageRows(2, 4);
+        y.table(0, Words.next(20));
+        y.table(20 * 16 + 3, Words.of(0x50, ALL));
+        due.same("walk of the small one", y.walk(0x300, 1), 0);
+        y.table(0, Words.of(0x40, READ | Words.LARGE));
+        due.same("walk of the large one", y.walk(0x245, 0), 0);
+        due.same("write", y.walk(0x345, 1), 3);
+        due.same("no walk", y.count(6), 2);
     }
 
     private static void writeThatWalksToAFault() {

@@ -18,6 +18,7 @@ public final class WalkEdgeTest {
             WalkEdgeTest::wordHasItsFrame,
             WalkEdgeTest::wordHasItsBits,
             WalkEdgeTest::otherBitsDoNotMatter,
+            WalkEdgeTest::marksDecideNothing,
             WalkEdgeTest::leafIsAtTheLastLevel,
             WalkEdgeTest::leafIsLarge,
             WalkEdgeTest::tableWithoutHost,
@@ -162,9 +163,24 @@ public final class WalkEdgeTest {
             due.same("bit " + bit + " is not in the kept frame", x.kept(0, 3), 0x77);
             due.same("bit " + bit + " is not in the kept rights", x.kept(0, 4), 15);
         }
-        // SEEN and CHANGED themselves decide nothing about a walk.
-        PageRows marked = Words.way(1, 0, Words.of(0x77, Words.SEEN | Words.CHANGED));
-        walks(marked, 0, 0, 2, 0);
+    }
+
+    private static void marksDecideNothing() {
+        due.sentence("6 SEEN, 7 CHANGED: no fault asks for them");
+        long[] marks = {0, Words.SEEN, Words.CHANGED, Words.SEEN | Words.CHANGED};
+        for (long upper : marks) {
+            for (long leaf : marks) {
+                PageRows x = Words.way(2, 0, Words.of(0x77, Words.PRESENT | Words.READ | leaf));
+                x.table(256, Words.next(17) | upper);
+                walks(x, 5, 1, 3, 1);
+                walks(x, 5, 0, 0, 0x7705);
+                due.same("upper word", x.word(256), Words.next(17) | upper | Words.SEEN);
+                due.same("leaf", x.word(272),
+                        Words.of(0x77, Words.PRESENT | Words.READ | leaf | Words.SEEN));
+                due.same("changed", x.kept(0, 5), (leaf & Words.CHANGED) == 0 ? 0 : 1);
+            }
+            walks(Words.way(1, 0, Words.of(0x77, upper)), 0, 0, 2, 0);
+        }
     }
 
     private static void leafIsAtTheLastLevel() {
